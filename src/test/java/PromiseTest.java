@@ -92,13 +92,13 @@ public final class PromiseTest {
     }
 
     private static void fillShuffles() {
-        while (desk.count(2) < 10) {
+        for (int i = 0; i < 10 && desk.count(2) < 10; i++) {
             desk.riffle(2);
         }
     }
 
     private static void fillPacks() {
-        while (desk.count(1) < 12) {
+        for (int i = 0; i < 12 && desk.count(1) < 12; i++) {
             desk.pack();
         }
     }
