@@ -24,6 +24,7 @@ public final class ShuffleEdgesTest extends Edges {
         sentence(9, "BAD: way", this::perfectWay);
         sentence(9, "STATE: n is odd", this::perfectOdd);
         sentence(9, "way 0: the top CARD stays; way 1: that of the lower half comes on top", this::perfectMove);
+        sentence(9, "no SHUFFLES any more: nothing of an earlier one shows", this::perfectAnew);
         sentence(9, "FULL", this::perfectFull);
         sentence(9, "BAD ahead of STATE ahead of FULL", this::perfectInOrder);
         sentence(10, "into h heaps (1 .. n); BAD", this::dealHeaps);
@@ -35,6 +36,7 @@ public final class ShuffleEdgesTest extends Edges {
         sentence(13, "BAD: no such", this::behindBad);
         sentence(13, "STATE: one has no MOVE", this::behindState);
         sentence(13, "one SHUFFLE and behind it another one (KIND 0)", this::behindMove);
+        sentence(13, "of the fewest and the most CARDS", this::behindCards);
         sentence(13, "FULL", this::behindFull);
         sentence(14, "BAD: no such", this::backBad);
         sentence(14, "STATE: it has no MOVE", this::backState);
@@ -60,6 +62,7 @@ public final class ShuffleEdgesTest extends Edges {
     private void doing() {
         sentence(18, "BAD", this::doesBad);
         sentence(18, "STATE: it has none", this::doesState);
+        sentence(18, "done with a PACK of the fewest and the most CARDS", this::doesCards);
         sentence(19, "BAD: no such SHUFFLE, PACK", this::lotsNumbers);
         sentence(19, "STATE: it has a MOVE", this::lotsState);
         sentence(19, "BAD: lots is not 0 .. (heaps to the n) less 1", this::lotsOfRiffle);
@@ -68,6 +71,7 @@ public final class ShuffleEdgesTest extends Edges {
         sentence(19, "l(0) + l(1) * heaps + ..", this::lotsLaid);
         sentence(20, "NO: no such", this::drawNumbers);
         sentence(20, "NO: it has a MOVE", this::drawMove);
+        sentence(20, "It is done with DRAWN lots: these, told as one number", this::drawDone);
         sentence(20, "till v is below as many lots as there are", this::drawTill);
         sentence(20, "For RIFFLES n times, for TOP once", this::drawTimes);
         sentence(20, "an int that wraps", this::drawWraps);
@@ -157,6 +161,25 @@ public final class ShuffleEdgesTest extends Edges {
             inside("outer", moveOf(0), code(outer[half - 1]));
             inside("inner", moveOf(1), code(inner[half - 1]));
             outside("no further place", desk.moves(0, 2 * half), BAD);
+        }
+    }
+
+    private void perfectAnew() {
+        for (int n = 2; n <= 10; n += 2) {
+            fresh(n);
+            desk.perfect(0);
+            desk.perfect(1);
+            long outer = moveOf(0);
+            long inner = moveOf(1);
+            desk.begin(10);
+            desk.deal(1);
+            desk.deal(1);
+            desk.begin(n);
+            outside("no shuffle yet", desk.moves(0, 0), BAD);
+            desk.perfect(0);
+            desk.perfect(1);
+            inside("outer", moveOf(0), outer);
+            inside("inner", moveOf(1), inner);
         }
     }
 
@@ -302,6 +325,18 @@ public final class ShuffleEdgesTest extends Edges {
         desk.behind(5, 5);
         inside("kind of two deals", desk.shuffleTold(6, 0), 0);
         outside("it is no deal", desk.taken(6, 2), OTHER);
+    }
+
+    private void behindCards() {
+        for (int n : new int[] {1, 2, 9, 10}) {
+            fresh(n);
+            desk.deal(1);
+            inside("turned twice", desk.behind(0, 0), 1);
+            inside("all as it was", moveOf(1), code(firstOrder(n)));
+            inside("turned thrice", desk.behind(1, 0), 2);
+            inside("turned thrice", moveOf(2), code(lastOrder(n)));
+            outside("no further place", desk.moves(2, n), BAD);
+        }
     }
 
     private void behindFull() {
@@ -583,6 +618,19 @@ public final class ShuffleEdgesTest extends Edges {
         inside("as it was", orderOf(0), code("3210"));
     }
 
+    private void doesCards() {
+        for (int n : new int[] {1, 2, 9, 10}) {
+            fresh(n);
+            desk.pack();
+            desk.deal(1);
+            inside("does", desk.does(0, 0), 1);
+            inside("turned", orderOf(0), code(lastOrder(n)));
+            inside("does again", desk.does(0, 0), 1);
+            inside("turned back", orderOf(0), code(firstOrder(n)));
+            outside("no further place", desk.card(0, n), BAD);
+        }
+    }
+
     // ---- 19
 
     private void lotsNumbers() {
@@ -715,6 +763,32 @@ public final class ShuffleEdgesTest extends Edges {
         inside("nothing is laid then", orderOf(0), code("0123"));
         inside("top", desk.draw(4, 0), 0);
         inside("one step", desk.seed(0), 12345);
+    }
+
+    /** The lots that are told bring another PACK to the same order. */
+    private void drawDone() {
+        for (int n = 1; n <= 10; n++) {
+            fresh(n);
+            desk.ranked(factorial(n) / 2);
+            desk.ranked(factorial(n) / 2);
+            desk.riffle(1);
+            desk.riffle(10);
+            desk.top();
+            desk.seed(n * 1000);
+            for (int s = 0; s < 3; s++) {
+                inside("the same lots", desk.lots(s, 1, desk.draw(s, 0)), 1);
+                inside("the same order", orderOf(0), orderOf(1));
+            }
+            long was = orderOf(1);
+            outside("no such pack", desk.draw(1, 2), NO);
+            inside("the other pack stays", orderOf(1), was);
+        }
+        fresh(3);
+        desk.pack();
+        desk.top();
+        desk.seed(seedAhead(2));
+        inside("lot 2", desk.draw(0, 0), 2);
+        inside("the top card at the end", orderOf(0), code("120"));
     }
 
     private void drawTill() {
